@@ -722,8 +722,9 @@ public final class SpinStrips {
         private void begin(Prices prices, int first, int end) {
             for (int kind = 0; kind < prices.kinds; kind++) {
                 Arrays.fill(now[kind], 0);
-                if (kind >= first && kind < end) {
-                    now[kind][prices.inside[0][kind]] = 1;
+                int cost = prices.inside[0][kind];
+                if (kind >= first && kind < end && cost < now[kind].length) {
+                    now[kind][cost] = 1;
                 }
             }
         }

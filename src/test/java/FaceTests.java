@@ -1,0 +1,122 @@
+import java.lang.reflect.Constructor;
+import java.lang.reflect.Field;
+import java.lang.reflect.Method;
+import java.lang.reflect.Modifier;
+import java.nio.file.Files;
+import java.nio.file.Path;
+import java.util.ArrayList;
+import java.util.List;
+import java.util.Set;
+import java.util.TreeSet;
+import java.util.regex.Matcher;
+import java.util.regex.Pattern;
+
+/** The public face of the document, and those rules of LANGUAGE.md that a look at the class or its text can tell. */
+public final class FaceTests {
+    private static final Due D = new Due();
+    private static final String FACE = "cell(int,int,int) clearText() close(boolean) column(int) count(int) heat(int,boolean)"
+            + " keep() lay(int,int,boolean) read() restore() setField(int,int,int) setPull(boolean,int) settle() sweep(int)"
+            + " turn(int,int) turnPatch(int,int) type(char) undo() withEnergy(int) withUps(int,boolean) withWalls(int)";
+    private static final String CONSTANTS = "BAD_VALUE FULL NONE NOT_POSSIBLE UNKNOWN";
+    private static final Set<String> LIBRARY = Set.of("System.arraycopy", "Arrays.fill", "Math.abs", "Math.min",
+            "Math.max", "Integer.bitCount", "Long.bitCount");
+
+    public static void main(String[] args) throws Exception {
+        members();
+        nestedClasses();
+        String code = Files.readString(Path.of(args[0])).replaceAll("(?s)/\\*.*?\\*/", "").replaceAll("//[^\n]*", "")
+                .replaceAll("'[^']'", "0");
+        words(code);
+        library(code);
+        methodLengths(code);
+        D.end();
+    }
+
+    private static void say(String rule, boolean holds) {
+        D.due(rule, holds ? 1 : 0, 1);
+    }
+
+    private static void members() {
+        say("the class is public and final", Modifier.isPublic(SpinStrips.class.getModifiers())
+                && Modifier.isFinal(SpinStrips.class.getModifiers()));
+        Set<String> methods = new TreeSet<>();
+        for (Method method : SpinStrips.class.getDeclaredMethods()) {
+            if (!Modifier.isPrivate(method.getModifiers())) {
+                List<String> types = new ArrayList<>();
+                for (Class<?> type : method.getParameterTypes()) {
+                    types.add(type.getName());
+                }
+                methods.add(method.getName() + "(" + String.join(",", types) + ")");
+                say(method + " is public and answers an int", Modifier.isPublic(method.getModifiers())
+                        && !Modifier.isStatic(method.getModifiers()) && method.getReturnType() == int.class);
+            }
+        }
+        say("the methods are " + methods, String.join(" ", methods).equals(FACE));
+        Set<String> constants = new TreeSet<>();
+        for (Field field : SpinStrips.class.getDeclaredFields()) {
+            if (!Modifier.isPrivate(field.getModifiers())) {
+                constants.add(field.getName());
+                say(field + " is a constant", Modifier.isPublic(field.getModifiers())
+                        && Modifier.isStatic(field.getModifiers()) && field.getType() == int.class);
+            }
+            say(field + ": static fields are final",
+                    !Modifier.isStatic(field.getModifiers()) || Modifier.isFinal(field.getModifiers()));
+        }
+        say("the constants are " + constants, String.join(" ", constants).equals(CONSTANTS));
+        Constructor<?>[] constructors = SpinStrips.class.getDeclaredConstructors();
+        say("one public constructor", constructors.length == 1 && constructors[0].getParameterCount() == 0
+                && Modifier.isPublic(constructors[0].getModifiers()));
+    }
+
+    private static void nestedClasses() {
+        Class<?>[] nested = SpinStrips.class.getDeclaredClasses();
+        say("at most 12 classes", nested.length < 12);
+        for (Class<?> one : nested) {
+            say(one + " is private or package-visible and static", Modifier.isStatic(one.getModifiers())
+                    && !Modifier.isPublic(one.getModifiers()) && !Modifier.isProtected(one.getModifiers()));
+            for (Method method : one.getDeclaredMethods()) {
+                say(method + " has a name of its own", !(" " + FACE).contains(" " + method.getName() + "("));
+                say(method + " has at most 7 parameters", method.getParameterCount() <= 7);
+            }
+            int fields = 0;
+            for (Field field : one.getDeclaredFields()) {
+                fields += Modifier.isStatic(field.getModifiers()) ? 0 : 1;
+            }
+            say(one + " has at most 20 fields", fields <= 20);
+        }
+    }
+
+    private static void words(String code) {
+        String[] forbidden = {"->", "::", "\\btry\\b", "\\bcatch\\b", "\\bfinally\\b", "\\bthrows?\\b", "\\bsynchronized\\b",
+            "\\bassert\\b", "\\bException\\b", "\\bdouble\\b", "\\bFloat\\b", "\\bvar\\b", "\\bstatic\\s*\\{", "\\bpackage\\b",
+            "\\bhashCode\\b", "\\btoString\\b", "\\bList\\b", "\\bRandom\\b", "[^\\x00-\\x7f]", "\""};
+        for (String word : forbidden) {
+            say("no " + word, !Pattern.compile(word).matcher(code).find());
+        }
+    }
+
+    private static void library(String code) {
+        Matcher imports = Pattern.compile("import ([^;]*);").matcher(code);
+        while (imports.find()) {
+            say("import " + imports.group(1), imports.group(1).equals("java.util.Arrays"));
+        }
+        String own = "Strip|History|Text|Prices|Sums|Least|AllStrips";
+        Matcher calls = Pattern.compile("\\b([A-Z][a-z]\\w*)\\.(\\w+)").matcher(code.replaceAll("import [^;]*;", ""));
+        while (calls.find()) {
+            say("the library has no " + calls.group(), calls.group(1).matches(own) || LIBRARY.contains(calls.group()));
+        }
+    }
+
+    private static void methodLengths(String code) {
+        int start = 0;
+        String[] lines = code.split("\n");
+        for (int i = 0; i < lines.length; i++) {
+            if (lines[i].matches("( {4}| {8})\\S.*\\) \\{")) {
+                start = i;
+            }
+            if (lines[i].matches("( {4}| {8})\\}") && i - start > 60) {
+                say("a method that ends at line " + (i + 1) + " is short", lines[i].startsWith("    }"));
+            }
+        }
+    }
+}
