@@ -110,6 +110,15 @@ public final class StripTests {
         D.dueSpins("3: ten columns", x, "+++,---,+-+,-+-,++-,+--,--+,-++,+++,--+");
         D.due("3: ten columns, two rows", readOf(x, "--,++,--,++,--,++,--,++,--,+-"), 20);
         D.due("3: all strips are of the new size", x.withUps(10, false), 184756);
+        D.due("3: least energy", x.count(8), -40);
+        D.due("3: least energy of another", readOf(x, "+,-"), 2);
+        D.due("3: least energy of another", x.count(8), -1);
+        D.due("3: walls of all", x.withWalls(1), 2);
+        D.due("3: ups of the least", x.withUps(2, true), 1);
+        D.due("3: read again", readOf(x, "+"), 1);
+        D.due("3: walls of all then", x.withWalls(1), 0);
+        D.due("3: ups of the least then", x.withUps(2, true), 0);
+        D.due("3: least energy then", x.count(8), 0);
     }
 
     private static void promise3Faults() {

@@ -133,7 +133,14 @@ public final class TextAndHistoryTests {
         x.lay(10, 3, true);
         x.turnPatch(0, 0);
         Due.typeAll(x, "+");
+        D.due("15: least energy before", x.count(8), -60 - 40);
+        D.due("15: greatest energy before", x.count(9), 60 + 40);
+        D.due("15: walls before", x.withWalls(50), 2);
+        D.due("15: least ups before", x.withUps(12, true), 0);
         D.due("15: restore()", x.restore(), -7);
+        D.due("15: walls of all", x.withWalls(50), 0);
+        D.due("15: walls of all", x.withWalls(16), 2);
+        D.due("15: least ups", x.withUps(6, true), 1);
         int[] want = {6, 2, 0, -7, 2, 11, 2, -2};
         for (int what = 0; what < want.length; what++) {
             D.due("15: count(" + what + ")", x.count(what), want[what]);

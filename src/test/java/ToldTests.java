@@ -84,6 +84,10 @@ public final class ToldTests {
         for (int column = 0; column < 8; column++) {
             D.due("17: column(" + column + ")", x.column(column), column);
         }
+        SpinStrips flat = read("-,+", false);
+        D.due("17: one row", flat.column(0), 0);
+        D.due("17: one row", flat.column(1), 1);
+        D.due("17: one row", flat.column(2), -1001);
         int[] wrong = {-1, 8, 10, Integer.MIN_VALUE, Integer.MAX_VALUE};
         for (int column : wrong) {
             D.due("17: column(" + column + ")", x.column(column), -1001);
@@ -203,6 +207,11 @@ public final class ToldTests {
         D.due("21: the mean by 0.73", x.heat(73, true), Float.floatToIntBits(mean));
         x.turn(0, 0);
         D.due("21: whatever the spins are", x.heat(73, true), Float.floatToIntBits(mean));
+        x.setPull(false, -2);
+        D.due("21: with another pull", x.heat(50, false), Float.floatToIntBits(2.125f));
+        x.setPull(false, 0);
+        D.due("21: without pulls", x.heat(50, false), Float.floatToIntBits(4.0f));
+        D.due("21: without pulls", x.heat(50, true), 0);
         x.lay(1, 1, false);
         D.due("21: energies of 0 alone", x.heat(60, true), 0);
         D.due("21: energies of 0 alone", x.heat(60, false), Float.floatToIntBits(2.0f));
@@ -232,5 +241,12 @@ public final class ToldTests {
         int swept = x.sweep(50);
         D.due("22: each cell that is turned counts each time", x.count(13), turned + swept);
         D.due("22: none would be turned now", x.count(12), 0);
+        D.due("22: patches of a board", read("+-,-+", false).count(11), 4);
+        D.due("22: patches of a ring", read("+-,-+,+-", true).count(11), 4);
+        D.due("22: greatest energy first", new SpinStrips().count(9), 16);
+        SpinStrips two = new SpinStrips();
+        two.count(9);
+        two.lay(3, 1, true);
+        D.due("22: greatest energy of a ring of 3", two.count(9), 1);
     }
 }

@@ -114,14 +114,14 @@ public final class TurningTests {
         D.due("9: would be turned", x.count(12), 4);
         D.due("9: sweep in order", x.sweep(1), 2);
         D.dueSpins("9: sweep in order", x, "-+,-+");
-        // Each sweep moves the end of the downs by one, as a cell is turned just behind a neighbour that was.
+        // A cell that is turned can give a gain to one before it, which the next sweep turns.
         SpinStrips slow = read("+,+,+,+,+,-", false);
         slow.setField(0, 4, -1);
         D.due("9: first sweep", slow.sweep(1), 1);
         D.dueSpins("9: first sweep", slow, "+,+,+,+,-,-");
         D.due("9: no more", slow.sweep(1), -1005);
         slow.setField(0, 0, -2);
-        D.due("9: down the row in one sweep", slow.sweep(1), 1);
+        D.due("9: a cell with a field alone", slow.sweep(1), 1);
         slow.setField(0, 3, -1);
         slow.setField(0, 2, -1);
         D.due("9: as many sweeps as asked for", slow.sweep(1), 1);
@@ -178,6 +178,12 @@ public final class TurningTests {
         D.dueSpins("10: rows in order", rows, "-+-");
         rows.setField(1, 0, 0);
         D.due("10: down in row 0 comes first", rows.settle(), -1005);
+        SpinStrips up = new SpinStrips();
+        up.lay(4, 1, false);
+        up.setField(0, 0, 2);
+        up.turn(0, 0);
+        D.due("10: the first one up", up.settle(), -5);
+        D.dueSpins("10: the first one up", up, "+,+,+,+");
         SpinStrips walls = new SpinStrips();
         walls.lay(4, 2, false);
         walls.setField(0, 0, -3);
