@@ -623,13 +623,15 @@ public final class SpinStrips {
             rows = strip.rows;
             kinds = 1 << rows;
             closed = strip.closed();
-            priceAlong(justWalls ? 1 : strip.along);
-            priceAcross(justWalls ? 1 : strip.across);
-            int reachAlong = rows * Math.abs(justWalls ? 1 : strip.along);
-            int reach = (rows - 1) * Math.abs(justWalls ? 1 : strip.across);
+            int along = justWalls ? 1 : strip.along;
+            int across = justWalls ? 1 : strip.across;
+            priceAlong(along);
+            priceAcross(across);
+            int reachAlong = rows * Math.abs(along);
+            int reachAcross = (rows - 1) * Math.abs(across);
             int soFar = 0;
             for (int column = 0; column < columns; column++) {
-                soFar += column == 0 ? reach : reach + reachAlong;
+                soFar += column == 0 ? reachAcross : reachAcross + reachAlong;
                 if (!justWalls) {
                     soFar += priceFields(strip, column);
                 }

@@ -18,6 +18,15 @@ final class Due {
         }
     }
 
+    /** A new object that has read a text, as a strip or a ring. */
+    static SpinStrips read(String text, boolean ring) {
+        SpinStrips x = new SpinStrips();
+        x.close(ring);
+        typeAll(x, text);
+        x.read();
+        return x;
+    }
+
     /** The spins, column by column, as a text that read() would take. */
     static String spins(SpinStrips x) {
         StringBuilder text = new StringBuilder();

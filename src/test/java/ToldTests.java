@@ -15,14 +15,6 @@ public final class ToldTests {
         D.end();
     }
 
-    private static SpinStrips read(String text, boolean ring) {
-        SpinStrips x = new SpinStrips();
-        x.close(ring);
-        Due.typeAll(x, text);
-        x.read();
-        return x;
-    }
-
     private static void dueCell(SpinStrips x, int row, int column, int... want) {
         for (int what = 0; what < want.length; what++) {
             D.due("16: cell(" + row + ", " + column + ", " + what + ")", x.cell(row, column, what), want[what]);
@@ -30,7 +22,7 @@ public final class ToldTests {
     }
 
     private static void promise16Cell() {
-        SpinStrips x = read("++-,+--,-++", false);
+        SpinStrips x = Due.read("++-,+--,-++", false);
         x.setPull(true, -2);
         x.setField(1, 1, -3);
         x.setField(0, 2, 2);
@@ -80,11 +72,11 @@ public final class ToldTests {
     }
 
     private static void promise17Column() {
-        SpinStrips x = read("---,+--,-+-,++-,--+,+-+,-++,+++", true);
+        SpinStrips x = Due.read("---,+--,-+-,++-,--+,+-+,-++,+++", true);
         for (int column = 0; column < 8; column++) {
             D.due("17: column(" + column + ")", x.column(column), column);
         }
-        SpinStrips flat = read("-,+", false);
+        SpinStrips flat = Due.read("-,+", false);
         D.due("17: one row", flat.column(0), 0);
         D.due("17: one row", flat.column(1), 1);
         D.due("17: one row", flat.column(2), -1001);
@@ -222,7 +214,7 @@ public final class ToldTests {
     }
 
     private static void promise22Count() {
-        SpinStrips x = read("+-,--,++,+-", true);
+        SpinStrips x = Due.read("+-,--,++,+-", true);
         x.setPull(false, -1);
         x.setPull(true, 2);
         x.setField(0, 1, 3);
@@ -241,8 +233,8 @@ public final class ToldTests {
         int swept = x.sweep(50);
         D.due("22: each cell that is turned counts each time", x.count(13), turned + swept);
         D.due("22: none would be turned now", x.count(12), 0);
-        D.due("22: patches of a board", read("+-,-+", false).count(11), 4);
-        D.due("22: patches of a ring", read("+-,-+,+-", true).count(11), 4);
+        D.due("22: patches of a board", Due.read("+-,-+", false).count(11), 4);
+        D.due("22: patches of a ring", Due.read("+-,-+,+-", true).count(11), 4);
         D.due("22: greatest energy first", new SpinStrips().count(9), 16);
         SpinStrips two = new SpinStrips();
         two.count(9);

@@ -13,14 +13,6 @@ public final class TurningTests {
         D.end();
     }
 
-    private static SpinStrips read(String text, boolean ring) {
-        SpinStrips x = new SpinStrips();
-        x.close(ring);
-        Due.typeAll(x, text);
-        x.read();
-        return x;
-    }
-
     private static void promise7Turn() {
         SpinStrips x = new SpinStrips();
         int[][] cells = {{2, 0}, {-1, 0}, {0, 6}, {0, -1}, {Integer.MIN_VALUE, 0}, {0, Integer.MAX_VALUE}};
@@ -44,7 +36,7 @@ public final class TurningTests {
     }
 
     private static void promise8TurnPatch() {
-        SpinStrips x = read("++-,+--,+-+,-++", false);
+        SpinStrips x = Due.read("++-,+--,+-+,-++", false);
         int[][] cells = {{3, 0}, {-1, 0}, {0, 4}, {0, -1}, {Integer.MIN_VALUE, 0}, {0, Integer.MAX_VALUE}};
         for (int[] cell : cells) {
             D.due("8: turnPatch(" + cell[0] + ", " + cell[1] + ")", x.turnPatch(cell[0], cell[1]), -1001);
@@ -64,25 +56,25 @@ public final class TurningTests {
         x.setPull(false, -2);
         x.setPull(true, 0);
         D.due("8: whatever the pulls are", x.turnPatch(0, 0), 12);
-        SpinStrips board = read("+-+,-+-,+-+", true);
+        SpinStrips board = Due.read("+-+,-+-,+-+", true);
         D.due("8: one of a board", board.turnPatch(1, 1), 1);
-        SpinStrips snake = read("+++,--+,+++,+--,+++,--+,+++,+--,+++,--+", false);
+        SpinStrips snake = Due.read("+++,--+,+++,+--,+++,--+,+++,+--,+++,--+", false);
         D.due("8: a snake", snake.turnPatch(0, 0), 20);
         D.dueSpins("8: a snake", snake, "---,---,---,---,---,---,---,---,---,---");
     }
 
     private static void promise8PatchesOfRings() {
-        SpinStrips strip = read("++,--,--,+-", false);
+        SpinStrips strip = Due.read("++,--,--,+-", false);
         D.due("8: not over the ends of a strip", strip.turnPatch(0, 0), 2);
-        SpinStrips ring = read("++,--,--,+-", true);
+        SpinStrips ring = Due.read("++,--,--,+-", true);
         D.due("8: over the seam from the first", ring.turnPatch(0, 0), 3);
         D.dueSpins("8: over the seam from the first", ring, "--,--,--,--");
-        ring = read("++,--,--,+-", true);
+        ring = Due.read("++,--,--,+-", true);
         D.due("8: over the seam from the last", ring.turnPatch(0, 3), 3);
-        D.due("8: no seam from column 1", read("+,-,+,-,+", true).turnPatch(0, 1), 1);
-        D.due("8: two columns", read("+-,-+", true).turnPatch(0, 0), 1);
-        D.due("8: three columns", read("+--,-++,+--", true).turnPatch(1, 0), 4);
-        D.due("8: ten columns, both ways", read("+++,---,---,+++,---,---,---,---,---,+++", true).turnPatch(2, 9), 6);
+        D.due("8: no seam from column 1", Due.read("+,-,+,-,+", true).turnPatch(0, 1), 1);
+        D.due("8: two columns", Due.read("+-,-+", true).turnPatch(0, 0), 1);
+        D.due("8: three columns", Due.read("+--,-++,+--", true).turnPatch(1, 0), 4);
+        D.due("8: ten columns, both ways", Due.read("+++,---,---,+++,---,---,---,---,---,+++", true).turnPatch(2, 9), 6);
     }
 
     private static void promise9Sweep() {
@@ -103,19 +95,19 @@ public final class TurningTests {
         D.due("9: undo", x.undo(), 1);
         D.dueSpins("9: undo", x, "++,++,-+,++,++,++");
         D.due("9: turned is of the state", x.count(13), 1);
-        SpinStrips level = read("+,+,-,-", false);
+        SpinStrips level = Due.read("+,+,-,-", false);
         D.due("9: a gain of 0 does not turn", level.sweep(3), -1005);
     }
 
     private static void promise9SweepInOrder() {
         // Rows first: in the first column the upper cell is turned and makes the lower one's gain go.
-        SpinStrips x = read("++,++", false);
+        SpinStrips x = Due.read("++,++", false);
         x.setPull(true, -2);
         D.due("9: would be turned", x.count(12), 4);
         D.due("9: sweep in order", x.sweep(1), 2);
         D.dueSpins("9: sweep in order", x, "-+,-+");
         // A cell that is turned can give a gain to one before it, which the next sweep turns.
-        SpinStrips slow = read("+,+,+,+,+,-", false);
+        SpinStrips slow = Due.read("+,+,+,+,+,-", false);
         slow.setField(0, 4, -1);
         D.due("9: first sweep", slow.sweep(1), 1);
         D.dueSpins("9: first sweep", slow, "+,+,+,+,-,-");
