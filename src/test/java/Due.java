@@ -1,3 +1,6 @@
+import java.util.function.Supplier;
+import java.util.function.ToIntFunction;
+
 /** Counts and prints the answers that are not those that are due. */
 final class Due {
     private int wrong = 0;
@@ -9,6 +12,33 @@ final class Due {
             wrong++;
             System.out.println(call + " answered " + got + ", due is " + want);
         }
+    }
+
+    void dueText(String what, String got, String want) {
+        asked++;
+        if (!got.equals(want)) {
+            wrong++;
+            System.out.println(what + ": got " + got + ", due is " + want);
+        }
+    }
+
+    /** A call that is refused answers what is due, and changes nothing: another object without the call tells the same. */
+    void refused(String call, Supplier<SpinStrips> start, ToIntFunction<SpinStrips> asked, int want) {
+        SpinStrips x = start.get();
+        due(call, asked.applyAsInt(x), want);
+        dueText(call + " changes nothing", Look.through(x), Look.through(start.get()));
+    }
+
+    /** An act answers what is due, and records the one state that was before it. */
+    void recorded(String call, Supplier<SpinStrips> start, ToIntFunction<SpinStrips> act, int want) {
+        SpinStrips x = start.get();
+        String before = Look.state(x);
+        int states = x.count(15);
+        due(call, act.applyAsInt(x), want);
+        int then = Math.min(states + 1, 4);
+        due(call + ": the states in the history then", x.count(15), then);
+        due(call + ": undo()", x.undo(), then - 1);
+        dueText(call + ": the state after undo()", Look.state(x), before);
     }
 
     /** Types all characters of a text behind that of the strip. */
@@ -30,11 +60,13 @@ final class Due {
     /** The spins, column by column, as a text that read() would take. */
     static String spins(SpinStrips x) {
         StringBuilder text = new StringBuilder();
-        for (int column = 0; column < x.count(0); column++) {
+        int columns = x.count(0);
+        int rows = x.count(1);
+        for (int column = 0; column < columns; column++) {
             if (column > 0) {
                 text.append(',');
             }
-            for (int row = 0; row < x.count(1); row++) {
+            for (int row = 0; row < rows; row++) {
                 text.append(x.cell(row, column, 0) == 1 ? '+' : '-');
             }
         }
@@ -42,12 +74,7 @@ final class Due {
     }
 
     void dueSpins(String when, SpinStrips x, String want) {
-        asked++;
-        String got = spins(x);
-        if (!got.equals(want)) {
-            wrong++;
-            System.out.println(when + ": the spins are " + got + ", due is " + want);
-        }
+        dueText(when + ": the spins", spins(x), want);
     }
 
     void end() {
