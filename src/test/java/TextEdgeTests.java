@@ -33,6 +33,8 @@ public final class TextEdgeTests {
         allFieldsAre0();
         pullsStay();
         readIsAnAct();
+        oneTextAfterAnother();
+        allStripsAreThoseOfTheText();
         D.end();
     }
 
@@ -461,5 +463,35 @@ public final class TextEdgeTests {
         D.recorded("3: this is an act", () -> typed("+"), SpinStrips::read, 1);
         D.recorded("3: this is an act, all as it was", () -> typed("++,++,++,++,++,++"), SpinStrips::read, 12);
         D.recorded("3: this is an act of a busy one", () -> busyWith(textOf(10, 3)), SpinStrips::read, 30);
+    }
+
+    private static void oneTextAfterAnother() {
+        SpinStrips x = typed("+++,+++");
+        D.due("3: one text after another: the first", x.read(), 6);
+        for (String text : new String[] {"---,---", "-", "+,-", "--,++,-+", "-+-", "--,--", "+", "---,+-+,---"}) {
+            x.clearText();
+            Due.typeAll(x, text);
+            D.due("3: one text after another: " + text, x.read(), text.replace(",", "").length());
+            D.dueSpins("3: one text after another: " + text, x, text);
+        }
+        x.clearText();
+        Due.typeAll(x, "+++,++");
+        D.due("3: one with a fault after another", x.read(), -1106);
+        D.dueSpins("3: one with a fault after another", x, "---,+-+,---");
+    }
+
+    private static void allStripsAreThoseOfTheText() {
+        for (String text : new String[] {"-", "+,-", "+-,-+", "+,-,-", "++-,--+,+-+"}) {
+            SpinStrips x = typed(text);
+            x.setPull(false, -2);
+            x.setField(0, 0, 1);
+            Look.all(x, 30);
+            x.read();
+            int columns = (text.length() + 1) / (text.indexOf(',') < 0 ? 2 : text.indexOf(',') + 1);
+            SpinStrips other = Starts.laid(columns, x.count(1), false);
+            other.setPull(false, -2);
+            D.due("3: columns of " + text, x.count(0), columns);
+            D.dueText("3: all strips are those of the text then: " + text, Look.all(x, 30), Look.all(other, 30));
+        }
     }
 }
