@@ -44,7 +44,7 @@ public final class SpinStrips {
     private static final int SIGN_BIT = 1 << 31;
 
     private final Strip strip = new Strip();
-    private final AllStrips all = new AllStrips(strip);
+    private final AllStrips all = new AllStrips();
     private final History history = new History();
     private final Strip snapshot = new Strip();
     private boolean kept = false;
@@ -162,7 +162,7 @@ public final class SpinStrips {
     }
 
     public int settle() {
-        long leastUps = all.firstWithLeastEnergy();
+        long leastUps = all.firstWithLeastEnergy(strip);
         if (leastUps == strip.ups) {
             return NONE;
         }
@@ -233,15 +233,15 @@ public final class SpinStrips {
     }
 
     public int withEnergy(int energy) {
-        return all.manyWithEnergy(energy);
+        return all.manyWithEnergy(strip, energy);
     }
 
     public int withWalls(int walls) {
-        return all.manyWithWalls(walls);
+        return all.manyWithWalls(strip, walls);
     }
 
     public int withUps(int ups, boolean least) {
-        return least ? all.manyOfLeastWithUps(ups) : all.manyWithUps(ups);
+        return least ? all.manyOfLeastWithUps(strip, ups) : AllStrips.manyWithUps(strip, ups);
     }
 
     public int heat(int hundredths, boolean mean) {
@@ -249,12 +249,12 @@ public final class SpinStrips {
             return 0;
         }
         float base = (float) hundredths / 100.0f;
-        float weights = all.sumOfWeights(base, false);
+        float weights = all.sumOfWeights(strip, base, false);
         if (!mean) {
             return bitsOf(weights);
         }
         // The strips of the least energy have the weight 1, so the sum is never 0.
-        return weights > 0.0f ? bitsOf(all.sumOfWeights(base, true) / weights) : 0;
+        return weights > 0.0f ? bitsOf(all.sumOfWeights(strip, base, true) / weights) : 0;
     }
 
     public int count(int what) {
@@ -267,9 +267,9 @@ public final class SpinStrips {
             case 5: return Long.bitCount(strip.ups);
             case 6: return strip.along;
             case 7: return strip.across;
-            case 8: return all.leastEnergy();
-            case 9: return all.greatestEnergy();
-            case 10: return all.manyWithEnergy(all.leastEnergy());
+            case 8: return all.leastEnergy(strip);
+            case 9: return all.greatestEnergy(strip);
+            case 10: return all.manyWithEnergy(strip, all.leastEnergy(strip));
             case 11: return strip.patches();
             case 12: return strip.gainingCells();
             case 13: return strip.turned;
@@ -870,7 +870,6 @@ public final class SpinStrips {
 
     /** What is told of all strips; the rows are kept until the shape, a pull or a field changes. */
     private static final class AllStrips {
-        private final Strip strip;
         private final Prices prices = new Prices();
         private final Prices wallPrices = new Prices();
         private final Sums sums = new Sums();
@@ -884,22 +883,18 @@ public final class SpinStrips {
         private boolean wallsKnown = false;
         private boolean leastUpsKnown = false;
 
-        AllStrips(Strip strip) {
-            this.strip = strip;
-        }
-
         void forget() {
             costsKnown = false;
             wallsKnown = false;
             leastUpsKnown = false;
         }
 
-        int manyWithEnergy(int energy) {
-            learnCosts();
+        int manyWithEnergy(Strip strip, int energy) {
+            learnCosts(strip);
             return manyAtEnergy(energy);
         }
 
-        int manyWithWalls(int walls) {
+        int manyWithWalls(Strip strip, int walls) {
             if (!wallsKnown) {
                 wallPrices.takeFrom(strip, true);
                 sums.fill(manyByWalls, wallPrices);
@@ -908,7 +903,7 @@ public final class SpinStrips {
             return at(manyByWalls, walls);
         }
 
-        int manyOfLeastWithUps(int ups) {
+        int manyOfLeastWithUps(Strip strip, int ups) {
             if (!leastUpsKnown) {
                 prices.takeFrom(strip, false);
                 least.fillUps(manyOfLeastByUps, prices);
@@ -918,7 +913,7 @@ public final class SpinStrips {
         }
 
         /** How many ways there are to choose the cells that are up. */
-        int manyWithUps(int ups) {
+        static int manyWithUps(Strip strip, int ups) {
             int cells = strip.columns * strip.rows;
             if (ups < 0 || ups > cells) {
                 return 0;
@@ -930,24 +925,24 @@ public final class SpinStrips {
             return (int) many;
         }
 
-        int leastEnergy() {
-            learnCosts();
+        int leastEnergy(Strip strip) {
+            learnCosts(strip);
             return energyOf(leastCost);
         }
 
-        int greatestEnergy() {
-            learnCosts();
+        int greatestEnergy(Strip strip) {
+            learnCosts(strip);
             return energyOf(greatestCost);
         }
 
-        long firstWithLeastEnergy() {
+        long firstWithLeastEnergy(Strip strip) {
             prices.takeFrom(strip, false);
             return least.firstStrip(prices);
         }
 
         /** The sum of weights, each times its energy if that is asked for. */
-        float sumOfWeights(float base, boolean timesEnergy) {
-            learnCosts();
+        float sumOfWeights(Strip strip, float base, boolean timesEnergy) {
+            learnCosts(strip);
             int greatest = energyOf(greatestCost);
             float weight = 1.0f;
             float sum = 0.0f;
@@ -959,7 +954,7 @@ public final class SpinStrips {
             return sum;
         }
 
-        private void learnCosts() {
+        private void learnCosts(Strip strip) {
             if (costsKnown) {
                 return;
             }

@@ -78,6 +78,10 @@ public final class FaceTests {
                 say(method + " has a name of its own", !(" " + FACE).contains(" " + method.getName() + "("));
                 say(method + " has at most 7 parameters", method.getParameterCount() <= 7);
             }
+            for (Constructor<?> constructor : one.getDeclaredConstructors()) {
+                say(constructor + " is given nothing, so no constructor hands out a part of its object",
+                        constructor.getParameterCount() == 0);
+            }
             int fields = 0;
             for (Field field : one.getDeclaredFields()) {
                 fields += Modifier.isStatic(field.getModifiers()) ? 0 : 1;
