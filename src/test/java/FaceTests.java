@@ -6,7 +6,9 @@ import java.nio.file.Files;
 import java.nio.file.Path;
 import java.util.ArrayList;
 import java.util.List;
+import java.util.Map;
 import java.util.Set;
+import java.util.TreeMap;
 import java.util.TreeSet;
 import java.util.regex.Matcher;
 import java.util.regex.Pattern;
@@ -29,6 +31,7 @@ public final class FaceTests {
         words(code);
         library(code);
         methodLengths(code);
+        callDepths(code);
         D.end();
     }
 
@@ -111,16 +114,42 @@ public final class FaceTests {
         }
     }
 
+    private static Matcher methods(String code) {
+        return Pattern.compile("\n( {4}| {8})(?! )[^\n=(]*\\b(\\w+)\\([^\n)]*\\) \\{(.*?)\n\\1\\}", Pattern.DOTALL)
+                .matcher(code);
+    }
+
     private static void methodLengths(String code) {
-        int start = 0;
-        String[] lines = code.split("\n");
-        for (int i = 0; i < lines.length; i++) {
-            if (lines[i].matches("( {4}| {8})\\S.*\\) \\{")) {
-                start = i;
-            }
-            if (lines[i].matches("( {4}| {8})\\}") && i - start > 60) {
-                say("a method that ends at line " + (i + 1) + " is short", lines[i].startsWith("    }"));
+        int found = 0;
+        for (Matcher method = methods(code); method.find(); found++) {
+            say(method.group(2) + " has at most 60 lines", method.group(3).split("\n").length < 60);
+        }
+        say("the methods are found in the text", found > SpinStrips.class.getDeclaredMethods().length);
+    }
+
+    /** Methods of one name are taken as one, so that a chain is never told shorter than it is. */
+    private static void callDepths(String code) {
+        Map<String, Set<String>> calls = new TreeMap<>();
+        for (Matcher method = methods(code); method.find(); ) {
+            Set<String> called = calls.computeIfAbsent(method.group(2), name -> new TreeSet<>());
+            Matcher names = Pattern.compile("(?<!Arrays\\.|Math\\.)\\b([a-z]\\w*)\\(").matcher(method.group(3));
+            while (names.find()) {
+                called.add(names.group(1));
             }
         }
+        for (String name : FACE.replaceAll("\\([^)]*\\)", "").split(" ")) {
+            say(name + " is found in the text", calls.containsKey(name));
+            say("the calls of " + name + " go at most eight deep, and none calls itself", depth(name, calls, 0) <= 8);
+        }
+    }
+
+    private static int depth(String name, Map<String, Set<String>> calls, int above) {
+        int deepest = 0;
+        for (String called : calls.getOrDefault(name, Set.of())) {
+            if (calls.containsKey(called) && above < 20) {
+                deepest = Math.max(deepest, depth(called, calls, above + 1));
+            }
+        }
+        return deepest + 1;
     }
 }
